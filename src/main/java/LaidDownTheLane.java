@@ -206,7 +206,7 @@ public final class LaidDownTheLane {
         int bits = 0;
         trial.takeFrom(now);
         for (int c = 0; c < SIDES; c++) {
-            if (now.bearsAt(c, now.minute) > 0 && standsWithout(1 << c)) {
+            if (now.bearsAt(c, now.minute) > 0 && fallsWithout(1 << c) == NONE) {
                 bits |= 1 << c;
             }
         }
@@ -810,13 +810,10 @@ public final class LaidDownTheLane {
         }
     }
 
+    /** To which SIDE it FALLS, the set being CUT; NONE if it STANDS. */
     private int fallsWithout(int set) {
         cutJust(set);
         return trial.fallSideAt(trial.minute);
-    }
-
-    private boolean standsWithout(int set) {
-        return fallsWithout(set) == NONE;
     }
 
     /**
@@ -826,7 +823,7 @@ public final class LaidDownTheLane {
     private int lastInOrder(int set) {
         trial.takeFrom(now);
         for (int c = SIDES - 1; c >= 0; c--) {
-            if ((set >> c & 1) == 1 && standsWithout(set & ~(1 << c))) {
+            if ((set >> c & 1) == 1 && fallsWithout(set & ~(1 << c)) == NONE) {
                 return c;
             }
         }

@@ -48,6 +48,9 @@ public final class FiresWindsTest {
         y.light();
         y.minutes(13);
         CHECK.same("23 as late as all of them", y.thick(1), 1);
+        // Only CELL 0 is cut: propped, it holds SIDE 0 behind the oiled ones' end.
+        LaidDownTheLane z = Lanes.of("g091;c0010;c0169;c1169;");
+        CHECK.same("23 the first cell is propped, too", z.thick(1), 9);
         CHECK.same("23 none cut", new LaidDownTheLane().thick(0), 1);
         CHECK.same("23 never falls", new LaidDownTheLane().thick(1), -4);
     }

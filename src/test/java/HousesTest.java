@@ -20,6 +20,7 @@ public final class HousesTest {
         judgeRefuses();
         days();
         daysOfHouses();
+        daysOfBricks();
         daysRefuse();
         CHECK.end();
     }
@@ -281,6 +282,18 @@ public final class HousesTest {
         CHECK.same("36 by the wind of the day", y.days(2, 1, 1), 6);
         CHECK.same("36 nothing now", y.hits(0, 1), -4);
         CHECK.same("36 no falls", new LaidDownTheLane().days(20, 1, 1), 0);
+    }
+
+    /** Reckoned apart, by another program: WEIGHT, seed, LANE, to the LANE, HOUSES. */
+    private static void daysOfBricks() {
+        int[][] due = {{250, 0, 3, 0, 1}, {250, 1, 0, 1, 4}, {300, 2, 6, 0, 10}, {300, -1, 9, 2, 13},
+            {342, 123456789, 3, 4, 15}, {342, Lanes.MIN, 0, 4, 17}, {342, Lanes.MAX, 6, 6, 20}};
+        for (int[] row : due) {
+            LaidDownTheLane x = Lanes.of("o03100;o06020;o09165;o00010;o04160;o08090;g" + Lanes.three(row[0]) + ";");
+            x.set(6, row[2]);
+            CHECK.same("36 bricks, seed " + row[1], x.days(20, row[1], 0), row[3]);
+            CHECK.same("36 bricks' houses, seed " + row[1], x.days(20, row[1], 1), row[4]);
+        }
     }
 
     private static void daysRefuse() {

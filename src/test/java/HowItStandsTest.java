@@ -94,6 +94,7 @@ public final class HowItStandsTest {
         CHECK.same("17 of several the least", new LaidDownTheLane().weakest(), 0);
         CHECK.same("17 in the wind", Lanes.of("w0410;").weakest(), 4);
         CHECK.same("17 where it is cut", Lanes.of("c0810;").weakest(), 8);
+        CHECK.same("17 the second side", Lanes.of("w0110;").weakest(), 1);
         CHECK.same("17 the last side", Lanes.of("w1110;").weakest(), 11);
         CHECK.same("17 below 0 throughout", Lanes.of("g000;c1010;").weakest(), 10);
     }

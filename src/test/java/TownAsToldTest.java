@@ -8,6 +8,7 @@ public final class TownAsToldTest {
         townRefuses();
         townCannotGoOn();
         townCannotBeDone();
+        townAfterCalls();
         townDown();
         cellTellsKinds();
         cellNow();
@@ -122,6 +123,23 @@ public final class TownAsToldTest {
         CHECK.same("2 no minutes came", x.count(1), 0);
         CHECK.same("2 no height came", x.count(7), 140);
         CHECK.same("2 no lean came", x.presses(1), 150);
+    }
+
+    private static void townAfterCalls() {
+        LaidDownTheLane x = new LaidDownTheLane();
+        x.set(3, 2);
+        x.house(3, 4);
+        x.cuts(5);
+        x.light();
+        x.minutes(7);
+        CHECK.same("2 behind other calls", Lanes.tell(x, "a04;n02;o00009;"), 3);
+        CHECK.same("2 minutes more", x.count(1), 9);
+        CHECK.same("2 a house more", x.count(0), 2);
+        CHECK.same("2 the wind stays", x.set(3, 2), 2);
+        CHECK.same("2 the cut stays", x.cell(5, 0), 1);
+        x.house(5, 5);
+        CHECK.same("2 a fault behind a house", Lanes.tell(x, "o00009;o00009;o00009;o00009;"), -2021);
+        CHECK.same("2 the houses stay", x.count(0), 3);
     }
 
     private static void townDown() {
