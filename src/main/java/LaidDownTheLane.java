@@ -90,7 +90,7 @@ public final class LaidDownTheLane {
         trial.takeFrom(now);
         int statements = 0;
         int place = 0;
-        while (place < text.size()) {
+        while (place < text.size() && statements < MOST_ELEMENTS) {
             if (!obeys(trial, text, place)) {
                 return UNDOABLE - place;
             }
