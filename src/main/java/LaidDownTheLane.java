@@ -517,10 +517,11 @@ public final class LaidDownTheLane {
         if (now.isDown()) {
             return NOT_SO;
         }
-        int after = now.fallAfter(row.size());
+        int after = now.fallAfter(AHEAD_MINUTES);
+        // From there on no number is so, whatever it tells.
+        int end = after == NONE ? AHEAD_MINUTES + 1 : after;
         for (int i = 0; i < row.size(); i++) {
-            boolean fallen = after != NONE && i >= after;
-            if (!row.isSkipped(i) && (fallen || row.at(i) != now.countBearing(now.minute + i))) {
+            if (!row.isSkipped(i) && (i >= end || row.at(i) != now.countBearing(now.minute + i))) {
                 return i;
             }
         }

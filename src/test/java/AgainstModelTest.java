@@ -286,11 +286,13 @@ public final class AgainstModelTest {
         Lanes.fill(x, sort, sort, struck);
         CHECK.same(town + "fell", x.fell(sort), m.fell(struck, struck.length - 1, skip));
         CHECK.same(town + "forged", x.forged(sort), m.forged(struck, skip));
-        int[] looked = new int[random.nextInt(101)];
+        int[] looked = new int[random.nextInt(random.nextBoolean() ? 101 : 64)];
         boolean honest = random.nextBoolean();
+        int silentFrom = random.nextInt(130);
         for (int i = 0; i < looked.length; i++) {
             int chance = honest ? 20 : random.nextInt(90);
-            looked[i] = chance < 3 ? chance : chance == 3 ? skip : m.at(m.minute + i).bearing();
+            boolean silent = chance == 3 || i >= silentFrom;
+            looked[i] = silent ? skip : chance < 3 ? chance : m.at(m.minute + i).bearing();
         }
         Lanes.fill(x, sort, sort, looked);
         CHECK.same(town + "judge", x.judge(sort), m.judge(looked, skip));

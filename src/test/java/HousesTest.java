@@ -17,6 +17,7 @@ public final class HousesTest {
         rowsRefused();
         judge();
         judgeSorts();
+        judgeBeyondSixty();
         judgeRefuses();
         days();
         daysOfHouses();
@@ -167,6 +168,10 @@ public final class HousesTest {
         }
         x.set(4, 400);
         CHECK.same("34 while down", x.forged(0), 2);
+        LaidDownTheLane all = Lanes.of("o00000;o01000;o02000;o03000;o04000;o05000;");
+        Lanes.fill(all, 0, Lanes.BYTES, 0, 0, 0, 0, 0, 0);
+        CHECK.same("34 there are twelve sides, each strikes one", all.forged(0), 5);
+        CHECK.same("33 there are twelve sides, each strikes one", all.fell(0), 0);
     }
 
     private static void rowsRefused() {
@@ -227,15 +232,42 @@ public final class HousesTest {
         }
         Lanes.fill(x, 0, Lanes.INTS, -128);
         CHECK.same("35 the least of its own sort only", x.judge(0), 0);
-        LaidDownTheLane bricks = new LaidDownTheLane();
-        bricks.row(0, Lanes.BYTES, 100);
-        for (int i = 0; i < 100; i++) {
-            bricks.put(0, i, 12);
-        }
-        CHECK.same("35 beyond 60", bricks.judge(0), -4);
-        bricks.put(0, 99, 11);
-        CHECK.same("35 the last place", bricks.judge(0), 99);
         CHECK.same("35 nothing that bears is not told", Lanes.of("c0010;").count(4), 11);
+    }
+
+    private static void judgeBeyondSixty() {
+        LaidDownTheLane bricks = new LaidDownTheLane();
+        int[] skips = {-128, -32768, Lanes.MIN};
+        for (int sort = 0; sort < 3; sort++) {
+            for (int size = 59; size <= 64; size++) {
+                Lanes.fill(bricks, 0, sort, told(size, 12));
+                CHECK.same("35 of so many " + size, bricks.judge(0), size <= 61 ? -4 : 61);
+            }
+            Lanes.fill(bricks, 0, sort, told(100, 12));
+            for (int i = 61; i < 99; i++) {
+                bricks.put(0, i, skips[sort]);
+                CHECK.same("35 skipped beyond 60, to " + i, bricks.judge(0), i + 1);
+            }
+            bricks.put(0, 99, skips[sort]);
+            CHECK.same("35 all skipped beyond 60", bricks.judge(0), -4);
+            bricks.put(0, 99, 0);
+            CHECK.same("35 the last place", bricks.judge(0), 99);
+            bricks.put(0, 60, 11);
+            CHECK.same("35 place 60 is looked at", bricks.judge(0), 60);
+        }
+        LaidDownTheLane later = Lanes.of("g090;c0021;c0121;c1121;f;n50;");
+        Lanes.fill(later, 0, Lanes.BYTES, told(62, 9));
+        CHECK.same("35 beyond 60 from now", later.judge(0), 61);
+        Lanes.fill(later, 0, Lanes.BYTES, told(61, 9));
+        CHECK.same("35 till 60 from now", later.judge(0), -4);
+    }
+
+    private static int[] told(int size, int number) {
+        int[] row = new int[size];
+        for (int i = 0; i < size; i++) {
+            row[i] = number;
+        }
+        return row;
     }
 
     private static void judgeRefuses() {

@@ -426,7 +426,7 @@ final class Model implements Cloneable {
         boolean down = false;
         for (int i = 0; i < row.length; i++) {
             Model m = at(minute + i);
-            down = down || m.falls() != NONE;
+            down = down || m.falls() != NONE || i > 60;
             if (row[i] != skip && (down || row[i] != m.bearing())) {
                 return i;
             }
