@@ -89,8 +89,17 @@ public final class FaceTest {
             CHECK.same(c.getName() + " has some twenty fields", fields <= 20 ? 1 : 0, 1);
             for (Method m : c.getDeclaredMethods()) {
                 CHECK.same(m + " takes seven", m.getParameterCount() <= 7 ? 1 : 0, 1);
+                CHECK.same(m + " bears a name of the face", namesOfTheFace().contains(m.getName()) ? 1 : 0, 0);
             }
         }
+    }
+
+    private static Set<String> namesOfTheFace() {
+        Set<String> names = new TreeSet<>();
+        for (String signature : FACE) {
+            names.add(signature.substring(signature.indexOf(' ') + 1, signature.indexOf('(')));
+        }
+        return names;
     }
 
     private static void onlyTheLibraryListed(String source) {
